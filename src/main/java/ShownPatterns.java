@@ -414,6 +414,10 @@ public final class ShownPatterns {
         return behind >= 0 && behind < POWERS.length ? row / POWERS[behind] % LETTERS : 0;
     }
 
+    private static int ownCost(int kind) {
+        return kind >= 0 && kind < OWN_COST.length ? OWN_COST[kind] : 0;
+    }
+
     private static boolean isLeaf(int kind) {
         return kind == LETTER || kind == CLASS;
     }
@@ -476,8 +480,7 @@ public final class ShownPatterns {
         int cost() {
             int sum = 0;
             for (int node = 0; node < size; node++) {
-                int of = kind[node];
-                sum += of >= 0 && of < OWN_COST.length ? OWN_COST[of] : 0;
+                sum += ownCost(kind[node]);
             }
             return sum;
         }
@@ -993,7 +996,7 @@ public final class ShownPatterns {
 
         int priceOf(int set) {
             int sum = 0;
-            for (int showing = 0; showing < SHOWINGS; showing++) {
+            for (int showing = 0; showing < size && showing < SHOWINGS; showing++) {
                 if ((set >> showing & 1) == 1) {
                     sum += prices[showing];
                 }
@@ -1167,7 +1170,7 @@ public final class ShownPatterns {
         }
 
         private void addLeaves(int cost, int kind, int from, int to) {
-            if (cost == OWN_COST[kind]) {
+            if (cost == ownCost(kind)) {
                 for (int v = from; v <= to; v++) {
                     add(kind, v, 0, 0);
                 }
@@ -1175,7 +1178,7 @@ public final class ShownPatterns {
         }
 
         private void addPairs(int cost, int kind) {
-            int costOfParts = cost - OWN_COST[kind];
+            int costOfParts = cost - ownCost(kind);
             for (int costOfX = LEAST_COST; costOfX <= costOfParts - LEAST_COST; costOfX++) {
                 int costOfY = costOfParts - costOfX;
                 for (int x = begin(costOfX); x < end(costOfX); x++) {
@@ -1190,7 +1193,7 @@ public final class ShownPatterns {
         }
 
         private void addSingles(int cost, int kind) {
-            int costOfX = cost - OWN_COST[kind];
+            int costOfX = cost - ownCost(kind);
             if (costOfX < LEAST_COST) {
                 return;
             }
@@ -1222,7 +1225,7 @@ public final class ShownPatterns {
             int kind = tree.kindOf(node);
             int x = tree.leftOf(node);
             int y = tree.rightOf(node);
-            costs[node] = kind >= 0 && kind < KINDS ? OWN_COST[kind] : 0;
+            costs[node] = ownCost(kind);
             if (!isLeaf(kind) && x >= 0 && x < node) {
                 costs[node] += costs[x];
                 x = numbers[x];
@@ -1258,7 +1261,8 @@ public final class ShownPatterns {
         private final int[] kept = new int[WORDS * PATTERNS];
         private final int[] slots = new int[SLOTS];
         private final int[] made = new int[WORDS];
-        private final int[] half = new int[WORDS];
+        private final int[] ahead = new int[WORDS];
+        private final int[] behind = new int[WORDS];
         private int size;
 
         int size() {
@@ -1287,71 +1291,73 @@ public final class ShownPatterns {
                     made[0] = x << 1;
                     break;
                 case THEN:
-                    load(half, x);
-                    addJoined(y);
+                    load(x, ahead);
+                    load(y, behind);
+                    addJoined();
                     break;
                 case EITHER:
-                    addTo(made, x);
-                    addTo(made, y);
+                    load(x, made);
+                    load(y, behind);
+                    addAll(behind, made);
                     break;
                 case AGAIN:
-                    makeAgain(x);
+                    load(x, made);
+                    load(x, behind);
+                    repeat();
                     break;
                 default:
-                    addTo(made, x);
+                    load(x, made);
                     made[0] |= 1;
                     break;
             }
             return keep();
         }
 
-        private void load(int[] words, int meaning) {
-            Arrays.fill(words, 0);
-            addTo(words, meaning);
-        }
-
-        private void addTo(int[] words, int meaning) {
+        private void load(int meaning, int[] words) {
             for (int word = 0; word < words.length; word++) {
-                words[word] |= wordOf(meaning, word);
+                words[word] = wordOf(meaning, word);
             }
         }
 
-        /** Each turn gives what is ahead one part more; four letters have four parts at most. */
-        private void makeAgain(int x) {
-            addTo(made, x);
+        private static void addAll(int[] from, int[] to) {
+            for (int word = 0; word < from.length && word < to.length; word++) {
+                to[word] |= from[word];
+            }
+        }
+
+        /** Each turn gives what is made one part more; four letters have four parts at most. */
+        private void repeat() {
             for (int i = 0; i < 3; i++) {
-                System.arraycopy(made, 0, half, 0, WORDS);
-                addJoined(x);
+                System.arraycopy(made, 0, ahead, 0, WORDS);
+                addJoined();
             }
         }
 
-        /** Adds to what is made the rows in half with the rows of y behind, as far as they have 4 letters at most. */
-        private void addJoined(int y) {
-            if ((half[0] & 1) == 1) {
-                addTo(made, y);
+        /** Adds to what is made each row ahead with each row behind, as far as both have 4 letters at most. */
+        private void addJoined() {
+            if ((ahead[0] & 1) == 1) {
+                addAll(behind, made);
             }
-            if ((wordOf(y, 0) & 1) == 1) {
-                for (int word = 0; word < WORDS; word++) {
-                    made[word] |= half[word];
-                }
+            if ((behind[0] & 1) == 1) {
+                addAll(ahead, made);
             }
-            int ones = wordOf(y, 0) >> 1 & 7;
-            int twos = wordOf(y, 0) >> TWOS_AT & 511;
+            int ones = behind[0] >> 1 & 7;
+            int twos = behind[0] >> TWOS_AT & 511;
             for (int u = 0; u < 3; u++) {
-                if ((half[0] >> 1 + u & 1) == 1) {
+                if ((ahead[0] >> 1 + u & 1) == 1) {
                     made[0] |= ones << TWOS_AT + 3 * u;
                     made[1] |= twos << 9 * u;
-                    made[FOURS + u] |= wordOf(y, 1);
+                    made[FOURS + u] |= behind[1];
                 }
             }
             for (int u = 0; u < 9; u++) {
-                if ((half[0] >> TWOS_AT + u & 1) == 1) {
+                if ((ahead[0] >> TWOS_AT + u & 1) == 1) {
                     made[1] |= ones << 3 * u;
                     made[FOURS + u / 3] |= twos << 9 * (u % 3);
                 }
             }
             for (int u = 0; u < 27; u++) {
-                if ((half[1] >> u & 1) == 1) {
+                if ((ahead[1] >> u & 1) == 1) {
                     made[FOURS + u / 9] |= ones << 3 * (u % 9);
                 }
             }
@@ -1567,7 +1573,8 @@ public final class ShownPatterns {
             judgeNew();
             int best = NONE;
             int least = 0;
-            for (int own = LEAST_COST; own <= cost; own++) {
+            // What costs as much alone as the best in all comes too late.
+            for (int own = LEAST_COST; own <= cost && (best == NONE || own < least); own++) {
                 int last = Math.min(all.end(own), PATTERNS);
                 for (int pattern = all.begin(own); pattern < last; pattern++) {
                     if (!isOfKinds(pattern, kinds)) {
