@@ -410,8 +410,11 @@ public final class ShownPatterns {
     }
 
     private static int letterAt(int row, int length, int at) {
-        int behind = length - 1 - at;
-        return behind >= 0 && behind < POWERS.length ? row / POWERS[behind] % LETTERS : 0;
+        int rest = row;
+        for (int behind = at + 1; behind < length; behind++) {
+            rest /= LETTERS;
+        }
+        return rest % LETTERS;
     }
 
     private static int ownCost(int kind) {
