@@ -166,7 +166,8 @@ final class Model {
         return 1;
     }
 
-    private static List<Term> ofCost(int cost) {
+    /** All patterns of a cost of at most 10, in their order. */
+    static List<Term> patternsOf(int cost) {
         return ALL.stream().filter(t -> t.cost() == cost).toList();
     }
 
@@ -181,16 +182,16 @@ final class Model {
         return switch (what) {
             case 0 -> term.cost();
             case 1 -> term.nodes();
-            case 2 -> ofCost(term.cost()).size();
-            default -> ofCost(term.cost()).indexOf(term);
+            case 2 -> patternsOf(term.cost()).size();
+            default -> patternsOf(term.cost()).indexOf(term);
         };
     }
 
     int nth(int place, int cost, int i) {
-        if (!isPlace(place) || i < 0 || i >= ofCost(cost).size()) {
+        if (!isPlace(place) || i < 0 || i >= patternsOf(cost).size()) {
             return BAD;
         }
-        places[place] = ofCost(cost).get(i);
+        places[place] = patternsOf(cost).get(i);
         return places[place].nodes();
     }
 
