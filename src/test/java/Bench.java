@@ -59,7 +59,7 @@ abstract class Bench {
     }
 
     static int number(String row) {
-        return Model.toNumber(row);
+        return Rows.toNumber(row);
     }
 
     static int[] numbers(String... rows) {

@@ -96,7 +96,7 @@ public final class FittingEdgesTest extends Bench {
         read(0, text);
         int fit = 0;
         for (int length = 0; length <= 3; length++) {
-            for (String row : Model.rowsOf(length)) {
+            for (String row : Rows.of(length)) {
                 fit += x.fits(0, number(row));
             }
         }

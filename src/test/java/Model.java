@@ -11,8 +11,8 @@ import java.util.Set;
 final class Model {
     static final int BAD = -1, NOT = -2, FULL = -3;
 
-    private static final List<Term> ALL = allPatterns();
-    private static final List<String> SHORT_ROWS = rowsUpTo(6);
+    private static final List<Term> ALL = Patterns.all();
+    private static final List<String> SHORT_ROWS = Rows.upTo(6);
     private static final Map<String, Integer> ROW_NUMBERS = numbers();
     private static final List<BitSet> FIT = fitSets();
 
@@ -31,56 +31,6 @@ final class Model {
     private int foundCount;
     private int askedCount;
 
-    private static List<Term> allPatterns() {
-        List<List<Term>> byCost = new ArrayList<>(List.of(List.of(), List.of()));
-        for (int cost = 2; cost <= 10; cost++) {
-            List<Term> here = new ArrayList<>();
-            for (int v = 0; v < 3 && cost == 2; v++) {
-                here.add(Term.letter(v));
-            }
-            for (int s = 1; s < 8 && cost == 3; s++) {
-                here.add(Term.ofClass(s));
-            }
-            for (int i = 2; i < cost; i++) {
-                for (Term x : byCost.get(i)) {
-                    if (cost - 1 - i >= 2 && x.kind() != Term.THEN) {
-                        byCost.get(cost - 1 - i).forEach(y -> here.add(Term.then(x, y)));
-                    }
-                    if (cost - 2 - i >= 2) {
-                        byCost.get(cost - 2 - i).forEach(y -> here.add(Term.either(x, y)));
-                    }
-                }
-            }
-            byCost.get(cost - 2).forEach(x -> here.add(Term.again(x)));
-            byCost.get(cost - 2).forEach(x -> here.add(Term.maybe(x)));
-            here.sort(null);
-            byCost.add(here);
-        }
-        List<Term> all = new ArrayList<>();
-        byCost.forEach(all::addAll);
-        return all;
-    }
-
-    static List<String> rowsOf(int length) {
-        List<String> rows = new ArrayList<>(List.of(""));
-        for (int i = 0; i < length; i++) {
-            List<String> longer = new ArrayList<>();
-            for (String row : rows) {
-                longer.addAll(List.of(row + "a", row + "b", row + "c"));
-            }
-            rows = longer;
-        }
-        return rows;
-    }
-
-    private static List<String> rowsUpTo(int most) {
-        List<String> rows = new ArrayList<>();
-        for (int length = 0; length <= most; length++) {
-            rows.addAll(rowsOf(length));
-        }
-        return rows;
-    }
-
     private static Map<String, Integer> numbers() {
         Map<String, Integer> numbers = new HashMap<>();
         SHORT_ROWS.forEach(row -> numbers.put(row, numbers.size()));
@@ -97,19 +47,6 @@ final class Model {
             sets.add(set);
         }
         return sets;
-    }
-
-    static int toNumber(String row) {
-        return Integer.parseInt("1" + row.replace('a', '0').replace('b', '1').replace('c', '2'), 3);
-    }
-
-    /** The row of a number, or null. */
-    static String toRow(int number) {
-        String digits = number > 0 ? Integer.toString(number, 3) : "";
-        if (!digits.startsWith("1") || digits.length() > 13) {
-            return null;
-        }
-        return digits.substring(1).replace('0', 'a').replace('1', 'b').replace('2', 'c');
     }
 
     private static boolean isPlace(int place) {
@@ -166,11 +103,6 @@ final class Model {
         return 1;
     }
 
-    /** All patterns of a cost of at most 10, in their order. */
-    static List<Term> patternsOf(int cost) {
-        return ALL.stream().filter(t -> t.cost() == cost).toList();
-    }
-
     int about(int place, int what) {
         if (!holds(place) || what < 0 || what > 3) {
             return BAD;
@@ -182,31 +114,31 @@ final class Model {
         return switch (what) {
             case 0 -> term.cost();
             case 1 -> term.nodes();
-            case 2 -> patternsOf(term.cost()).size();
-            default -> patternsOf(term.cost()).indexOf(term);
+            case 2 -> Patterns.of(term.cost()).size();
+            default -> Patterns.of(term.cost()).indexOf(term);
         };
     }
 
     int nth(int place, int cost, int i) {
-        if (!isPlace(place) || i < 0 || i >= patternsOf(cost).size()) {
+        if (!isPlace(place) || i < 0 || i >= Patterns.of(cost).size()) {
             return BAD;
         }
-        places[place] = patternsOf(cost).get(i);
+        places[place] = Patterns.of(cost).get(i);
         return places[place].nodes();
     }
 
     int fits(int place, int row) {
-        if (!holds(place) || toRow(row) == null) {
+        if (!holds(place) || Rows.toRow(row) == null) {
             return BAD;
         }
-        return places[place].fits(toRow(row)) ? 1 : 0;
+        return places[place].fits(Rows.toRow(row)) ? 1 : 0;
     }
 
     int out(int place, int row) {
-        if (!holds(place) || toRow(row) == null) {
+        if (!holds(place) || Rows.toRow(row) == null) {
             return BAD;
         }
-        String text = toRow(row);
+        String text = Rows.toRow(row);
         for (int i = 0; i < text.length(); i++) {
             for (int j = text.length(); j > i; j--) {
                 if (places[place].fits(text.substring(i, j))) {
@@ -218,7 +150,7 @@ final class Model {
     }
 
     private List<String> fitRows(int place, int length) {
-        return rowsOf(length).stream().filter(places[place]::fits).toList();
+        return Rows.of(length).stream().filter(places[place]::fits).toList();
     }
 
     int many(int place, int length) {
@@ -230,7 +162,7 @@ final class Model {
             return BAD;
         }
         List<String> rows = fitRows(place, length);
-        return i < rows.size() ? toNumber(rows.get(i)) : BAD;
+        return i < rows.size() ? Rows.toNumber(rows.get(i)) : BAD;
     }
 
     int alike(int a, int b) {
@@ -242,7 +174,7 @@ final class Model {
             return BAD;
         }
         String row = Term.partingRow(places[a], places[b], false);
-        return row == null ? NOT : row.length() > 12 ? FULL : toNumber(row);
+        return row == null ? NOT : row.length() > 12 ? FULL : Rows.toNumber(row);
     }
 
     int inside(int a, int b) {
@@ -250,7 +182,7 @@ final class Model {
     }
 
     int show(int row, int said, int part, int price) {
-        String text = toRow(row);
+        String text = Rows.toRow(row);
         if (text == null || text.length() > 6 || said < 0 || said > 3 || price < 1 || price > 99) {
             return BAD;
         }
@@ -399,7 +331,7 @@ final class Model {
             int lesser = Math.min(have, meanings.size() - have);
             if (lesser > best) {
                 best = lesser;
-                answer = toNumber(SHORT_ROWS.get(i));
+                answer = Rows.toNumber(SHORT_ROWS.get(i));
                 askedCount = have;
             }
         }

@@ -102,7 +102,7 @@ public final class ModelTest {
         int length = m.say(place, -1);
         due("say(" + place + ", -1)", x.say(place, -1), length);
         for (int at = 0; at <= length; at++) {
-            check.due(run + "say(" + place + ", " + at + ")", x.say(place, at), m.say(place, at));
+            due("say(" + place + ", " + at + ")", x.say(place, at), m.say(place, at));
         }
     }
 
@@ -195,9 +195,12 @@ public final class ModelTest {
         }
     }
 
-    /** Each run likes one of the four groups best, so that states far from the beginning are met too. */
+    /**
+     * Each run likes one of the four groups best, so that states far from the beginning are met too. It ends well ahead
+     * of the 512th call, for some steps are many calls.
+     */
     private void go(int liking) {
-        while (calls < 480 && check.allRight()) {
+        while (calls < 420 && check.allRight()) {
             switch (upTo(2) == 0 ? liking : upTo(3)) {
                 case 0 -> patternCall();
                 case 1 -> fittingCall();
@@ -208,7 +211,7 @@ public final class ModelTest {
     }
 
     public static void main(String[] args) {
-        int runs = args.length > 0 ? Integer.parseInt(args[0]) : 60;
+        int runs = args.length > 0 ? Integer.parseInt(args[0]) : 100;
         long first = args.length > 1 ? Long.parseLong(args[1]) : 1L;
         Check check = new Check();
         for (long seed = first; seed < first + runs && check.allRight(); seed++) {

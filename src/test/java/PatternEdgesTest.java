@@ -27,6 +27,7 @@ public final class PatternEdgesTest extends Bench {
         readEmptiesTape();
         readReplaces();
         faultLeavesPlace();
+        faultLeavesNothing();
         tooMuchLeavesPlace();
         twelveNodesAtMost();
         faultAheadOfTooMuch();
@@ -239,6 +240,17 @@ public final class PatternEdgesTest extends Bench {
         read(0, "a|b");
         due("to one that is held", read(0, "ab)"), -102);
         dueSaid(0, "a|b");
+    }
+
+    private void faultLeavesNothing() {
+        begin("3 read, a FAULT leaves nothing to the next TEXT");
+        for (int i = 0; i < 4; i++) {
+            due("59 letters and a fault", read(0, "a".repeat(59) + "("), -160);
+            due("30 choices and a fault", read(0, "a|".repeat(29) + ")"), -158);
+            due("too much", read(0, "a".repeat(60)), -1000);
+        }
+        due("the next text", read(0, "(ab|c)(a|b)c"), 19);
+        dueSaid(0, "(ab|c)(a|b)c");
     }
 
     private void tooMuchLeavesPlace() {
@@ -469,7 +481,7 @@ public final class PatternEdgesTest extends Bench {
     private void saidIsReadBack() {
         begin("4 say, what is SAID is read back");
         for (int cost = 2; cost <= 10; cost++) {
-            List<Term> all = Model.patternsOf(cost);
+            List<Term> all = Patterns.of(cost);
             for (int i = 0; i < all.size(); i += 7) {
                 renew();
                 x.nth(0, cost, i);
@@ -591,7 +603,7 @@ public final class PatternEdgesTest extends Bench {
             due("the first of cost " + cost, x.nth(1, cost, 0) > 0);
             due("the last of cost " + cost, x.nth(1, cost, sizes[cost - 2] - 1) > 0);
         }
-        dueSaid(1, Model.patternsOf(10).get(3140).said());
+        dueSaid(1, Patterns.of(10).get(3140).said());
     }
 
     private void nthOrder() {
@@ -603,7 +615,7 @@ public final class PatternEdgesTest extends Bench {
             dueSaid(0, ofSix[i]);
         }
         for (int cost = 2; cost <= 10; cost++) {
-            List<Term> all = Model.patternsOf(cost);
+            List<Term> all = Patterns.of(cost);
             for (int i = 0; i < all.size(); i++) {
                 if (i % 20 == 0) {
                     renew();

@@ -123,6 +123,8 @@ public final class SearchEdgesTest extends Bench {
 
     private void findOfAtMostThatCost() {
         begin("19 find, \"of at most that COST\"");
+        due("no class of cost 2", x.find(0, CLASS, 2), NOT);
+        due("the first of cost 3", x.find(0, CLASS, 3), 3);
         shall("abc");
         shallNot("abcc");
         shallNot("ab");
@@ -278,15 +280,16 @@ public final class SearchEdgesTest extends Bench {
         shallNot("aaaa");
         due("aaa", x.find(0, LETTER | THEN | AGAIN, 10), 8);
         dueSaid(0, "aaa");
-        due("(aaa)+ is parted by 6 letters: no other meaning", x.next(0), NOT);
+        due("a(aa)+ is parted by 5 letters, (aaa)+ by 6: no other meaning", x.next(0), NOT);
         due("open", x.open(LETTER | THEN | AGAIN, 10), 1);
         renew();
-        shall("aa");
-        shallNot("a");
-        shallNot("aaa");
-        due("aa", x.find(0, LETTER | THEN | AGAIN, 7), 5);
-        due("(aa)+ is parted by 4 letters: another meaning", x.next(0), 7);
-        dueSaid(0, "(aa)+");
+        shall("cc");
+        shallNot("c");
+        due("cc", x.find(0, LETTER | THEN | AGAIN, 7), 5);
+        due("cc+ is parted by 3 letters: another meaning", x.next(0), 7);
+        dueSaid(0, "cc+");
+        due("c+c is alike, (cc)+ is parted by 4 letters: another meaning", x.next(0), 7);
+        dueSaid(0, "(cc)+");
         due("no more", x.next(0), NOT);
         renew();
         x.find(0, LETTER | CLASS, 3);
@@ -437,13 +440,13 @@ public final class SearchEdgesTest extends Bench {
 
     private void askOfThreeLetters() {
         begin("23 ask, \"of all ROWS of at most 3 LETTERS\"");
-        shallNot("a");
-        shall("aa");
-        due("aa, aa+ and (aa)+: told by 3 letters", x.ask(LETTER | THEN | AGAIN, 7), number("aaa"));
+        shallNot("c");
+        shall("cc");
+        due("cc, cc+ and (cc)+: parted by the last row of 3 letters", x.ask(LETTER | THEN | AGAIN, 7), number("ccc"));
         due("asked", x.asked(), 1);
-        shallNot("aaa");
+        shallNot("ccc");
         due("two are open", x.open(LETTER | THEN | AGAIN, 7), 2);
-        due("aa and (aa)+: told by 4 letters alone", x.ask(LETTER | THEN | AGAIN, 7), NOT);
+        due("cc and (cc)+: parted by 4 letters alone", x.ask(LETTER | THEN | AGAIN, 7), NOT);
         due("asked", x.asked(), 0);
         renew();
         shallNot("a");
@@ -488,6 +491,10 @@ public final class SearchEdgesTest extends Bench {
         due("no pattern", x.ask(THEN, 10), NOT);
         shall("a");
         due("one meaning alone", x.ask(LETTER, 10), NOT);
+        x.find(0, ALL_KINDS, 10);
+        x.ask(LETTER, 10);
+        due("the search goes on", x.next(0), 3);
+        dueSaid(0, "[ab]");
         shallNot("a");
         due("none agrees", x.ask(ALL_KINDS, 10), NOT);
     }

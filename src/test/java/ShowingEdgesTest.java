@@ -227,6 +227,9 @@ public final class ShowingEdgesTest extends Bench {
         dueAgrees("a?", "", 1, 0, 1);
         dueAgrees("c+", "cccccc", 1, 0, 1);
         dueAgrees("(cc)+", "ccccc", 1, 0, 0);
+        dueAgrees("c+b?", "cccccc", 1, 0, 1);
+        dueAgrees("b?c+", "cccccc", 1, 0, 1);
+        dueAgrees("a?b?", "", 1, 0, 1);
     }
 
     private void saidTwo() {
