@@ -33,6 +33,7 @@ public final class FittingEdgesTest extends Bench {
         rowIsBad();
         alikeOfAnyLength();
         alikeIsOfWhatFits();
+        alikeAgain();
         alikeIsBad();
         partedByFirst();
         partedByEmpty();
@@ -349,6 +350,23 @@ public final class FittingEdgesTest extends Bench {
         due("one place with itself", x.alike(0, 0), 1);
         two("a+", "a+?");
         due("parted by the empty row", x.alike(0, 9), 0);
+    }
+
+    private void alikeAgain() {
+        begin("12 alike, 13 parted, 14 inside: what was compared before does not count");
+        two(FAR, FAR_AND_MORE);
+        read(1, "a");
+        read(2, "[a]");
+        read(3, "[ab]");
+        for (int i = 0; i < 3; i++) {
+            due("two far apart", x.parted(0, 9), FULL);
+            due("two that are alike", x.alike(1, 2), 1);
+            due("two that are parted", x.parted(3, 2), number("b"));
+            due("two that are alike", x.parted(2, 1), NOT);
+            due("one inside another", x.inside(0, 9), 1);
+            due("one inside another", x.inside(1, 3), 1);
+            due("one not inside another", x.inside(3, 1), 0);
+        }
     }
 
     private void alikeIsBad() {

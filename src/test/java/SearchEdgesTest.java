@@ -450,6 +450,10 @@ public final class SearchEdgesTest extends Bench {
         due("asked", x.asked(), 0);
         renew();
         shallNot("a");
+        shall("aa");
+        due("aa, aa+ and (aa)+: parted by the first row of 3 letters", x.ask(LETTER | THEN | AGAIN, 7), number("aaa"));
+        renew();
+        shallNot("a");
         shallNot("b");
         shall("ccc");
         due("ccc, c+ and such", x.ask(LETTER | AGAIN | THEN, 8), number("c"));
