@@ -43,6 +43,7 @@ public final class PatternEdgesTest extends Bench {
         sayTellsLength();
         sayTellsBytes();
         saidParentheses();
+        saidOfTwelveNodes();
         saidIsReadBack();
         dropEmpties();
         dropOfEmpty();
@@ -475,6 +476,17 @@ public final class PatternEdgesTest extends Bench {
             read(0, read[i]);
             dueSaid(0, said[i]);
             due("length of " + said[i], x.say(0, -1), said[i].length());
+        }
+    }
+
+    private void saidOfTwelveNodes() {
+        begin("4 say, of a PATTERN of 12 NODES, however deep");
+        String[] most = {"a" + "+".repeat(11), "[abc]" + "?+".repeat(5) + "?", "aaaaaa+", "(aaaaaa)+", "a|b|c|a|b|c?", "(a|b|c|a|b|c)?",
+            "(((((a|b)|c)|a)|b)|c)+", "((ab?|c)+|a)+b", "(a(b(c|a)+)+)??"};
+        for (String text : most) {
+            read(0, text);
+            due("nodes of " + text, x.about(0, 1) >= 11);
+            dueSaid(0, text);
         }
     }
 

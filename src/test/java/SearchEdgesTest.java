@@ -407,10 +407,10 @@ public final class SearchEdgesTest extends Bench {
         due("choices of letters mean what classes do", x.open(LETTER | EITHER, 10), 7);
         due("rows of 1 to 3 letters", x.open(LETTER | THEN, 10), 39);
         due("rows of 1 or 2", x.open(LETTER | THEN, 7), 12);
-        due("cost 2", x.open(ALL_KINDS, 2), 3);
-        due("cost 3", x.open(ALL_KINDS, 3), 7);
-        due("cost 4", x.open(ALL_KINDS, 4), 13);
-        due("cost 7", x.open(ALL_KINDS, 7), 125);
+        int[] all = {3, 7, 13, 30, 57, 125, 302, 615, 1284};
+        for (int cost = 2; cost <= 10; cost++) {
+            due("cost " + cost, x.open(ALL_KINDS, cost), all[cost - 2]);
+        }
     }
 
     private void openOfNone() {
@@ -535,6 +535,14 @@ public final class SearchEdgesTest extends Bench {
         due("other calls change nothing", x.asked(), 1);
         x.ask(LETTER, 3);
         due("it was NOT", x.asked(), 0);
+        shall("");
+        x.ask(CLASS | MAYBE, 10);
+        due("all have the empty row, and some have a", x.asked() > 0);
+        shallNot("a");
+        shallNot("c");
+        due("b? alone", x.open(CLASS | MAYBE, 5), 1);
+        due("it has the empty row and b", x.ask(CLASS | MAYBE, 5), NOT);
+        due("but it was NOT", x.asked(), 0);
     }
 
     // ---- 25 noise
