@@ -39,6 +39,8 @@ public final class ShownPatterns {
     private static final int MOST_COST = 10;
     /** So many patterns have a cost of at most 10. */
     private static final int PATTERNS = 4937;
+    /** So many meanings do these patterns have. */
+    private static final int MEANINGS = 1284;
     /** So many rows have at most 3 letters. */
     private static final int ASKED_ROWS = 40;
 
@@ -1259,9 +1261,9 @@ public final class ShownPatterns {
         private static final int TWOS_AT = 4;
         private static final int THREES_AT = 13;
         private static final int FOURS = 2;
-        private static final int SLOTS = 1 << 14;
+        private static final int SLOTS = 1 << 12;
 
-        private final int[] kept = new int[WORDS * PATTERNS];
+        private final int[] kept = new int[WORDS * MEANINGS];
         private final int[] slots = new int[SLOTS];
         private final int[] made = new int[WORDS];
         private final int[] ahead = new int[WORDS];
@@ -1396,7 +1398,7 @@ public final class ShownPatterns {
         }
 
         private int keepNew() {
-            if (size >= PATTERNS) {
+            if (size >= MEANINGS) {
                 return NONE;
             }
             System.arraycopy(made, 0, kept, size * WORDS, WORDS);
@@ -1416,12 +1418,12 @@ public final class ShownPatterns {
         private final Spans spans = new Spans(PATTERNS);
         private int judged;
         /** By meaning: the latest count that met it. */
-        private final int[] metIn = new int[PATTERNS];
+        private final int[] metIn = new int[MEANINGS];
         private int counts;
         private final int[] having = new int[ASKED_ROWS];
         private int haveAsked;
         /** By meaning: the latest search that found it. */
-        private final int[] foundIn = new int[PATTERNS];
+        private final int[] foundIn = new int[MEANINGS];
         private int searches;
         private int kindsSought;
         private int at;
@@ -1523,7 +1525,7 @@ public final class ShownPatterns {
         /** Counts the rows that the meanings of the latest count have. */
         private void countRows() {
             Arrays.fill(having, 0);
-            int last = Math.min(meanings.size(), PATTERNS);
+            int last = Math.min(meanings.size(), MEANINGS);
             for (int meaning = 0; meaning < last; meaning++) {
                 if (metIn[meaning] == counts) {
                     addRows(meaning);

@@ -45,7 +45,7 @@ public final class RoomTest {
         long run = made() - start - tables;
         System.out.println(bare + " bytes an object, " + tables + " with all tables, " + run + " in calls behind them");
         check.due("a bare object is small", bare < 20_000 ? 1 : 0, 1);
-        check.due("the tables are small", tables < 1_000_000 ? 1 : 0, 1);
+        check.due("the tables are small", tables < 300_000 ? 1 : 0, 1);
         check.due("calls make nothing but their texts here", run < 20_000 ? 1 : 0, 1);
         check.end();
     }
